@@ -680,7 +680,9 @@ public final class KnobEye {
                     return;
                 }
                 int card = order[place];
-                spare.turnBy(now.lit[card], now.yes[card], turner, facts);
+                if (card >= 0 && card < now.cardCount) {
+                    spare.turnBy(now.lit[card], now.yes[card], turner, facts);
+                }
                 shown++;
             }
         }
@@ -982,17 +984,14 @@ public final class KnobEye {
             unseen = false;
             many = 0;
             at = 0;
-            int begin = 0;
-            while (begin < length) {
-                int end = begin + 1;
-                if (tape[begin] != ' ') {
-                    end = endOf(begin);
+            for (int begin = 0; begin < length && many < TAPE; begin++) {
+                if (tape[begin] != ' ' && !goesOn(begin)) {
+                    int end = endOf(begin);
                     things[many] = wordOf(begin, end, place);
                     begins[many] = begin;
                     numbers[many] = numberOf(begin, end);
                     many++;
                 }
-                begin = end;
             }
             things[many] = Word.END;
             begins[many] = length;
@@ -1000,16 +999,22 @@ public final class KnobEye {
             length = 0;
         }
 
+        /** Whether the word or NUMBER of the byte ahead goes on with this byte. */
+        private boolean goesOn(int i) {
+            if (i <= 0 || i >= length) {
+                return false;
+            }
+            return isLetter(tape[i - 1]) && isLetter(tape[i]) || isDigit(tape[i - 1]) && isDigit(tape[i]);
+        }
+
         /** The byte behind the word, NUMBER or sign that begins there. */
         private int endOf(int begin) {
-            int end = begin + 1;
-            boolean letters = isLetter(tape[begin]);
-            if (letters || isDigit(tape[begin])) {
-                while (end < length && (letters ? isLetter(tape[end]) : isDigit(tape[end]))) {
-                    end++;
+            for (int end = begin + 1; end < length; end++) {
+                if (!goesOn(end)) {
+                    return end;
                 }
             }
-            return end;
+            return length;
         }
 
         private Word wordOf(int begin, int end, int place) {
@@ -1040,7 +1045,7 @@ public final class KnobEye {
             if (text.length() != end - begin) {
                 return false;
             }
-            for (int i = 0; i < text.length(); i++) {
+            for (int i = 0; i < text.length() && begin + i < length; i++) {
                 if (tape[begin + i] != text.charAt(i)) {
                     return false;
                 }
@@ -1471,7 +1476,7 @@ public final class KnobEye {
         private void fall() {
             for (int wire = 0; wire < wires; wire++) {
                 if (!isStuck(wire)) {
-                    knobs[wire] -= Integer.compare(knobs[wire], 0);
+                    knobs[wire] -= knobs[wire] > 0 ? 1 : knobs[wire] < 0 ? -1 : 0;
                 }
             }
         }
@@ -1669,7 +1674,9 @@ public final class KnobEye {
         private int k;
         private boolean stopAtFirst;
         private boolean countEyes;
-        private State cards;
+        /** Behind the columns of yes cards, and of no cards, that are watched. */
+        private int yesEnd;
+        private int noEnd;
         private int asked;
 
         /** Whether there were any; of them the least KNOBS, and these without signs together. */
@@ -1698,25 +1705,33 @@ public final class KnobEye {
             begin(eye, state, state.cardCount, itsK);
             countEyes = true;
             asked = Math.min(manyAsked, ASKED);
-            for (int card = 0; card < state.cardCount; card++) {
-                addColumn(eye, state.lit[card], 0, false);
-            }
+            addCards(eye, state, true);
+            yesEnd = columns;
+            addCards(eye, state, false);
+            noEnd = columns;
             for (int card = 0; card < asked; card++) {
                 sayYes[card] = 0;
-                addColumn(eye, card < CELLS ? 1 << card : 3 << card - CELLS, 0, false);
+                addColumn(eye, card < CELLS ? 1 << card : 3 << card - CELLS, 0);
             }
             run();
         }
 
+        private void addCards(Eye eye, State state, boolean yes) {
+            for (int card = 0; card < state.cardCount; card++) {
+                if (state.yes[card] == yes) {
+                    addColumn(eye, state.lit[card], 0);
+                }
+            }
+        }
+
         private void begin(Eye eye, State state, int many, int itsK) {
-            cards = state;
             wires = eye.wires;
             k = itsK;
             columns = 0;
             for (int high = 0; high < many && high < state.cardCount; high++) {
                 for (int low = 0; low < many && low < state.cardCount; low++) {
                     if (state.yes[high] && !state.yes[low]) {
-                        addColumn(eye, state.lit[high], state.lit[low], true);
+                        addColumn(eye, state.lit[high], state.lit[low]);
                     }
                 }
             }
@@ -1728,12 +1743,13 @@ public final class KnobEye {
             eyes = 0;
         }
 
-        private void addColumn(Eye eye, int lit, int less, boolean pair) {
+        /** A card less another one; less the card 0, of which all VALUES are 0, it stands alone. */
+        private void addColumn(Eye eye, int lit, int less) {
             if (columns >= COLUMNS) {
                 return;
             }
             for (int wire = 0; wire < wires && wire < MOST_WIRES; wire++) {
-                adds[wire][columns] = eye.valueOf(wire, lit) - (pair ? eye.valueOf(wire, less) : 0);
+                adds[wire][columns] = eye.valueOf(wire, lit) - eye.valueOf(wire, less);
             }
             columns++;
         }
@@ -1802,19 +1818,18 @@ public final class KnobEye {
             int low = -READ_LINE;
             int high = READ_LINE;
             int[] sum = sums[wires];
-            for (int card = 0; card < cards.cardCount; card++) {
-                if (cards.yes[card]) {
-                    high = Math.min(high, sum[pairs + card] - 1);
-                } else {
-                    low = Math.max(low, sum[pairs + card]);
-                }
+            for (int column = pairs; column < yesEnd; column++) {
+                high = Math.min(high, sum[column] - 1);
+            }
+            for (int column = yesEnd; column < noEnd; column++) {
+                low = Math.max(low, sum[column]);
             }
             if (low > high) {
                 return;
             }
             eyes += high - low + 1;
             for (int card = 0; card < asked; card++) {
-                int below = Math.min(high, sum[pairs + cards.cardCount + card] - 1);
+                int below = Math.min(high, sum[noEnd + card] - 1);
                 sayYes[card] += Math.max(0, below - low + 1);
             }
         }
