@@ -1176,13 +1176,18 @@ public final class KnobEye {
             Node last = null;
             for (int parts = 0; parts < TAPE; parts++) {
                 Node part = new Node(Node.PART);
-                boolean bare = is(Word.NUMBER);
-                part.number = bare ? takeNumber(9999) : 1;
-                if (bare && wrong == NONE && is(Word.TIMES)) {
+                part.number = 1;
+                boolean fact = !is(Word.NUMBER);
+                if (!fact) {
+                    part.number = at < many ? numbers[at] : NONE;
+                    if (part.number < 0) {
+                        return fail();
+                    }
                     at++;
-                    bare = false;
+                    fact = is(Word.TIMES);
+                    at += fact ? 1 : 0;
                 }
-                if (!bare) {
+                if (fact) {
                     part.word = wordHere(FACT);
                     if (part.word == null) {
                         return fail();
@@ -1201,7 +1206,7 @@ public final class KnobEye {
                 }
                 at++;
             }
-            return wrong == NONE ? first : null;
+            return first;
         }
 
         /** A NUMBER of 0 to most; NONE, and a fault, if there is none. */

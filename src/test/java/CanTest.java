@@ -12,6 +12,7 @@ public final class CanTest {
         promise23Bound();
         promise24BlindPairs();
         promise24BlindByRule();
+        promise24BlindOfManyValues();
         promise25Odds();
         CHECK.end();
     }
@@ -182,6 +183,10 @@ public final class CanTest {
         due("behind read", x.found(0, 1, 1), -1);
         x.bars(1, 1);
         due("behind bars of another", x.found(0, 1, 7), 1);
+        x.read(0, 1, false);
+        due("behind read, of the other", x.found(1, 1, 7), 9999);
+        x.read(0, 1, false);
+        due("behind read again", x.can(1, 1), false);
         x.back();
         due("back", x.found(0, 1, 6), 0);
         KnobEye y = onlyByTwo();
@@ -325,6 +330,36 @@ public final class CanTest {
         due("by ODD: all lit or none", y.blind(1, 1), 0);
         due("SHOWN CARDS do not matter", y.blind(1, NONE), NONE);
         due("again", y.blind(0, 0), 0x7FFF);
+    }
+
+    /** Some ten thousand kinds of VALUES; a RULE that is right on one card alone is blind where that one's like begin. */
+    private static void promise24BlindOfManyValues() {
+        int[] wires = {0b1011010110010011, 0b0110101101011100, 0b1100011110101001, 0b0011110000111110, 0b1010101011010011, 0b1101000101101110};
+        java.util.Map<Integer, Integer> firsts = new java.util.HashMap<>();
+        int[] first = new int[65536];
+        int[] many = new int[65536];
+        for (int lit = 0; lit < 65536; lit++) {
+            int values = 0;
+            for (int cells : wires) {
+                values = 17 * values + Integer.bitCount(cells & lit);
+            }
+            firsts.putIfAbsent(values, lit);
+            first[lit] = firsts.get(values);
+            many[first[lit]]++;
+        }
+        due("many kinds", firsts.size() > 3000, true);
+        int asked = 0;
+        for (int lit = 7; lit < 65536; lit += 251) {
+            StringBuilder text = new StringBuilder();
+            for (int cell = 0; cell < 16; cell++) {
+                text.append(cell == 0 ? "" : " and ").append((lit >> cell) % 2 == 1 ? "c" : "not c").append(cell);
+            }
+            KnobEye x = eye(wires);
+            Check.rule(x, text.toString());
+            due("blind by " + lit + " alone", x.blind(0, 0), many[first[lit]] == 1 ? NONE : first[lit]);
+            asked++;
+        }
+        due("asked", asked, 262);
     }
 
     private static void promise25Odds() {

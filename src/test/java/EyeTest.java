@@ -267,6 +267,10 @@ public final class EyeTest {
         CHECK.index("show by no turner", () -> x.show(0, 0, 1));
         CHECK.index("show by turner -1", () -> x.show(0, 0, -1));
         due("none was shown", x.look(0, 8), 0);
+        for (int n = 1; n < 4; n++) {
+            Check.turner(x, "line 1");
+        }
+        CHECK.index("show by a fifth turner", () -> x.show(0, 0, 4));
         due("0 is not above 0: wrong", x.show(0, 0, 0), true);
         due("up by 2 times 3", x.look(0, 0), 6);
         due("the line down", x.look(0, 6), -3);
@@ -325,6 +329,12 @@ public final class EyeTest {
         x.knob(0, 0, 17);
         x.show(0, 0, 0);
         due("far of 17 less 8", x.look(0, 0), 18);
+        x.knob(0, 0, 5);
+        x.show(0, 0, 0);
+        due("far of 5 less 8", x.look(0, 0), 8);
+        x.knob(0, 0, -1);
+        x.show(0, 0, 0);
+        due("far of - 1 less 8", x.look(0, 0), 0);
         x.knob(0, 0, -6);
         x.show(0, 1, 1);
         due("knob without sign", x.look(0, 0), -7);
@@ -410,6 +420,14 @@ public final class EyeTest {
         due("not yet", x.look(0, 0), 12);
         x.show(0, 0, 0);
         due("behind the twelfth", x.look(0, 0), 11);
+        x.stuck(0, 0, 1);
+        x.knob(0, 0, 1);
+        x.knob(0, 1, -1);
+        x.show(0, 0, 0);
+        due("from 1 to 0", x.look(0, 0), 0);
+        due("from - 1 to 0", x.look(0, 1), 0);
+        x.show(0, 0, 0);
+        due("and there it stays", x.look(0, 0) - x.look(0, 1), 0);
     }
 
     private static void promise19Turned() {

@@ -82,6 +82,12 @@ public final class GoesByTest {
         x.card(0x1000, false);
         x.card(0x1000, false);
         due("of those the least", x.goesBy(0), 12);
+        KnobEye y = eye(0, 3, 1);
+        y.card(1, false);
+        due("the first", y.goesBy(0), 0);
+        y.card(2, false);
+        y.card(2, false);
+        due("the second", y.goesBy(0), 1);
     }
 
     private static void promise28Along() {
@@ -117,6 +123,8 @@ public final class GoesByTest {
         x.away();
         x.card(0x7FFF, true);
         due("all but 15", x.cloud(), 0);
+        x.card(2, true);
+        due("the second", x.cloud(), 1);
     }
 
     private static void promise30Mend() {
@@ -149,7 +157,15 @@ public final class GoesByTest {
             x.card(0, false);
         }
         due("18 of 20, beyond what can be shown", x.mend(0, 3), 16);
-        due("17 of 20 with the last cell", x.mend(15, 0), 10);
+        due("15 of 20 with the last cell", x.mend(15, 0), 10);
+        KnobEye y = new KnobEye();
+        Check.rule(y, "c 0 or lit < 1");
+        Check.rule(y, "c 15 and lit < 16 or lit < 1 and rows > 0");
+        Check.rule(y, "c 0 or rows < 1 and lit > 0");
+        y.card(0x8001, true);
+        due("the card 0 alone is so", y.mend(0, 0), 1);
+        due("the card 65535 alone is so", y.mend(15, 1), 1);
+        due("there are no further cards", y.mend(0, 2), NONE);
     }
 
     private static void promise31Bear() {
@@ -211,6 +227,10 @@ public final class GoesByTest {
         y.card(1, false);
         y.card(3, true);
         due("kinds too", y.swapped(0, 0, 1), 1);
+        y.knob(0, 0, 0);
+        y.knob(0, 1, 1);
+        due("kinds too, by the other knob", y.swapped(0, 0, 1), 1);
+        due("and the other way round", y.swapped(0, 1, 0), 1);
     }
 
     private static void promise33Soonest() {
@@ -437,6 +457,9 @@ public final class GoesByTest {
         due("blind", x.holds(4), true);
         x.show(0, 0, 0);
         due("shown", x.holds(2), true);
+        addEye(x, 0);
+        x.show(1, 0, 0);
+        due("shown to this eye", x.holds(2), true);
         KnobEye y = eye(0, 1, 1);
         Check.rule(y, "c 0");
         Check.rule(y, "c 0 and c 1");
@@ -445,11 +468,21 @@ public final class GoesByTest {
         Check.claim(y, 0, 1, "unseen > 73 and unseen < 75");
         Check.claim(y, 0, 2, "not unseen > 49 or unseen < 50 and blind");
         addEye(y, 0);
-        Check.claim(y, 1, 0, "unseen > 48 and unseen < 50 and knobs < 1");
+        Check.claim(y, 1, 0, "unseen > 48 and unseen < 50 and knobs < 1 and shown < 1");
+        Check.turner(y, "");
+        y.card(0, false);
+        y.show(0, 0, 0);
         due("all right: 99", y.holds(0), true);
         due("three of four: 74", y.holds(1), true);
         due("half: 49", y.holds(2), true);
+        Check.rule(y, "lit < 12");
+        Check.claim(y, 0, 3, "unseen > 0");
         due("of another eye", y.holds(3), true);
+        // 63019 cards have fewer than 12 lit: by 656 that is 96.06..
+        y.eye();
+        y.knob(2, NONE, -1);
+        Check.claim(y, 2, 3, "unseen > 95 and unseen < 97");
+        due("by 656", y.holds(5), true);
         y.knob(0, 0, -1);
         due("judged now", y.holds(0), false);
         due("an eye of no knobs still", y.holds(3), true);
@@ -509,11 +542,14 @@ public final class GoesByTest {
         x.end(4);
         due("a rule behind", x.rule(), 1);
         due("it is that", x.right(1, 3), true);
+        x.card(3, true);
         x.image();
         x.away();
+        due("found without it", x.found(0, 1, 7), 0);
         x.back();
+        due("found of the image", x.found(0, 1, 7), 1);
         due("the latest image", x.count(0), 2);
-        due("its card", x.count(1), 1);
+        due("its cards", x.count(1), 2);
         KnobEye y = new KnobEye();
         y.image();
         y.eye();

@@ -101,6 +101,7 @@ public final class TextTest {
         due("rule 2", Check.rule(x, "not even and not c0 or piece"), 2);
         due("rule 3", Check.rule(x, "(((((not piece)))))"), 3);
         due("count", x.count(0), 4);
+        CHECK.index("right by a fifth", () -> x.right(4, 0));
         Check.put(x, "even");
         CHECK.unsupported("a fifth", () -> x.rule());
         due("of a good text", x.fault(), NONE);
@@ -129,7 +130,7 @@ public final class TextTest {
             {"((((((not even))))))", 6}, {"not (not (not (not even)))", 15}, {"even and (((((((lit", 15},
             {"far < 1", 0}, {"lit < far", 6}, {"wrong", 0}, {"blind", 0}, {"yes", 0}, {"cards < 1", 0}, {"odd", 0},
             {"Even", 0}, {"even\n", 4}, {"even;", 4}, {"\u00ffeven", 0}, {"even or piece!", 13}, {"lit = 3", 4},
-            {"evene", 0}, {"eve", 0}, {"lit < -1", 6}, {"lit > 1 and 2", 13}, {"turn 1", 0}, {"even if even", 5},
+            {"evene", 0}, {"evenz", 0}, {"zeven", 0}, {"eve", 0}, {"lit < -1", 6}, {"lit > 1 and 2", 13}, {"turn 1", 0}, {"even if even", 5},
             {"lit`", 3}, {"lit{", 3}, {"lit < 1:", 7}, {"lit < 1/", 7}, {"piece or c 15 or c 16", 19},
         };
         for (Object[] one : wrong) {
@@ -276,6 +277,8 @@ public final class TextTest {
             {"not lit < 3", new int[] {7}, new int[] {0, 3}},
             {"c 0 or c 1 or c 2", new int[] {1, 2, 4}, new int[] {0, 8}},
             {"c 0 and c 1 and c 2", new int[] {7}, new int[] {3, 5, 6}},
+            {"((((((c 0))))))", new int[] {1}, new int[] {0}},
+            {"not(not(not(c 0)and c 1))or(((((not c 2)))))", new int[] {0, 3, 6}, new int[] {4, 5, 7}},
             {"not(not(not c 0))", new int[] {0}, new int[] {1}},
         };
         for (Object[] one : rules) {
