@@ -26,6 +26,8 @@ public final class KnobEye {
     private static final int REPEATS = 10;
     private static final int CANNOT = 9999;
     private static final int HUNDREDTH = 656;
+    /** More than an EYE can see, and than there are eyes to READ. */
+    private static final int BEYOND = 1 << 30;
     /** The cards that NEXT chooses from: of one CELL, then of two. */
     private static final int ASKED = CELLS + CELLS - 1;
     /** Where a word of a text may stand, and what it is. */
@@ -590,8 +592,8 @@ public final class KnobEye {
     }
 
     private int lineFound(Eye eye) {
-        int highestNo = Integer.MIN_VALUE;
-        int lowest = Integer.MAX_VALUE;
+        int highestNo = -BEYOND;
+        int lowest = BEYOND;
         for (int card = 0; card < now.cardCount; card++) {
             int sum = eye.sumWith(search.best, now.lit[card]);
             lowest = Math.min(lowest, sum);
@@ -602,13 +604,13 @@ public final class KnobEye {
         if (now.cardCount == 0) {
             return 0;
         }
-        return highestNo == Integer.MIN_VALUE ? lowest - 1 : highestNo;
+        return highestNo == -BEYOND ? lowest - 1 : highestNo;
     }
 
     /** BOUND by the KNOBS in search, where there are yes cards and no cards. */
     private int boundOf(Eye eye) {
-        long lowestYes = Long.MAX_VALUE;
-        long highestNo = Long.MIN_VALUE;
+        long lowestYes = BEYOND;
+        long highestNo = -BEYOND;
         long most = 0;
         for (int card = 0; card < now.cardCount; card++) {
             int sum = eye.sumWith(search.best, now.lit[card]);
@@ -694,7 +696,7 @@ public final class KnobEye {
     /** NEXT by what search counted of the ASKED cards. */
     private int nextCard() {
         int best = 0;
-        int fewestEyes = Integer.MAX_VALUE;
+        int fewestEyes = BEYOND;
         for (int card = 0; card < ASKED; card++) {
             int frequent = Math.max(search.sayYes[card], search.eyes - search.sayYes[card]);
             if (frequent < fewestEyes) {
@@ -1744,7 +1746,7 @@ public final class KnobEye {
             stopAtFirst = false;
             countEyes = false;
             any = false;
-            least = Integer.MAX_VALUE;
+            least = BEYOND;
             eyes = 0;
         }
 
