@@ -52,6 +52,8 @@ public final class AskBoundsTest {
         readK1And2();
         readLinesToNine();
         nextNone();
+        nextOfOneEye();
+        nextOfTwentyCards();
         nextFirstAndLast();
         holdsNoSuch();
         holdsUnseenBy656();
@@ -841,6 +843,30 @@ public final class AskBoundsTest {
         due("all say no: the first", y.read(0, 1, true), 16);
         y.card(0, true);
         due("no such eyes", y.read(0, 1, true), NONE);
+    }
+
+    private static void nextOfOneEye() {
+        KnobEye x = eye(1);
+        x.card(1, true);
+        x.card(0, false);
+        due("one eye", x.read(0, 1, false), 1);
+        due("it says yes to cell 0 alone, one answer to each: the first", x.read(0, 1, true), 16);
+    }
+
+    private static void nextOfTwentyCards() {
+        KnobEye x = eye(1);
+        for (int n = 0; n < 20; n++) {
+            x.card(n % 2, n % 2 == 1);
+        }
+        x.wire(0, 0xC000, 1);
+        due("one knob and line, another knob free", x.read(0, 1, false), 3);
+        due("by that the last two tell them apart", x.read(0, 1, true), 46);
+        x.wire(0, 0x8000, 0);
+        due("two knobs free", x.read(0, 1, false), 9);
+        due("the last one does, too", x.read(0, 1, true), 31);
+        x.away();
+        x.card(0, true);
+        due("none by the twentieth", x.read(0, 1, true), NONE);
     }
 
     private static void nextFirstAndLast() {

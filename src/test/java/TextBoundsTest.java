@@ -32,6 +32,7 @@ public final class TextBoundsTest {
         cellTo15();
         turnTo50();
         sixDeep();
+        sixDeepWithAllInEach();
         seventhDeep();
         besideIsNotDeeper();
         wordsFromAToZ();
@@ -479,6 +480,19 @@ public final class TextBoundsTest {
             due("lit by " + rule, x.right(rule, 1), rule % 2 == 0);
             due("not lit by " + rule, x.right(rule, 0), rule % 2 == 1);
         }
+    }
+
+    /** An or, an and and a ( in each: what stands innermost decides. */
+    private static void sixDeepWithAllInEach() {
+        String text = "c0 or c1 and(".repeat(6) + "c0 or c1 and c2" + ")".repeat(6);
+        dueRule(text, NONE);
+        dueRule("c0 or c1 and(" + text + ")", 12 + 6 * 13);
+        KnobEye x = new KnobEye();
+        Check.rule(x, text);
+        due("c 0", x.right(0, 1), true);
+        due("c 1 alone", x.right(0, 2), false);
+        due("c 1 and c 2", x.right(0, 6), true);
+        due("c 2 alone", x.right(0, 4), false);
     }
 
     private static void seventhDeep() {
