@@ -412,14 +412,19 @@ public final class EyeTest {
         x.stuck(0, 0, 0);
         x.show(0, 0, 0);
         due("0: never", x.look(0, 0), 12);
-        // 8 were shown; falls of 4 come by all that were shown, not by those since they were set
-        x.stuck(0, 0, 4);
-        x.show(0, 0, 0);
-        x.show(0, 0, 0);
+        // 8 were shown; falls of 5 come by all that were shown, not by those since they were set
+        due("shown till now", x.look(0, 8), 8);
+        x.stuck(0, 0, 5);
         x.show(0, 0, 0);
         due("not yet", x.look(0, 0), 12);
         x.show(0, 0, 0);
-        due("behind the twelfth", x.look(0, 0), 11);
+        due("behind the tenth", x.look(0, 0), 11);
+        for (int n = 11; n < 15; n++) {
+            x.show(0, 0, 0);
+            due("not yet: " + n, x.look(0, 0), 11);
+        }
+        x.show(0, 0, 0);
+        due("behind the fifteenth", x.look(0, 0), 10);
         x.stuck(0, 0, 1);
         x.knob(0, 0, 1);
         x.knob(0, 1, -1);
